@@ -96,6 +96,10 @@ public final class DrivesTest {
         due.tells(x, "none is lost more", x.gather(), 5, 1);
         x = Due.flock("g21..b00s10");
         due.tells(x, "no drive can be", x.gather(), Due.NONE, 0);
+        x = Due.flock("g23.#.#.#b01b02");
+        due.tells(x, "drive 0", x.gather(), 0, 1);
+        x = Due.flock("g61......b00b10b20b50");
+        due.tells(x, "four: two drives bring them side by side, the first", x.gather(), 9, 10);
     }
 
     private static void promise28() {
@@ -121,6 +125,8 @@ public final class DrivesTest {
         x.cell(4);
         due.tells(x, "one of them is lost by each", x.part(0, 2), Due.NONE, 2);
         due.tells(x, "another one may be lost", x.part(1, 2), 1, 1);
+        x = Due.flock("g23.#.#.#b01b02");
+        due.tells(x, "drive 0", x.part(0, 1), 0, 1);
     }
 
     private static void promise29() {
@@ -145,6 +151,10 @@ public final class DrivesTest {
         x = Due.flock("g31.~.b00b20");
         x.stir(0, 1);
         due.is("a lost one", x.worth(0, 0), Due.STATE);
+        x = Due.flock("g41.oo.b00b30");
+        due.tells(x, "one, by one cell", x.worth(0, 1), 1, 1);
+        x = Due.flock("g61......b10b00b20b40");
+        due.tells(x, "four: each goes, the stirred one back", x.worth(3, 1), 4, 4);
     }
 
     private static void promise30() {
@@ -171,6 +181,9 @@ public final class DrivesTest {
         due.is("no LAST BUT ONE by it", x.mark(0, 3), 10);
         x = Due.flock("g31...b10b00");
         due.is("another one is behind", x.stone(2), 0);
+        x = Due.flock("g61......b00b50b30");
+        due.is("only the third is 1 off", x.stone(4), 1);
+        due.cells(x, "only the third", 0, 5, 2);
         due.is("a WALL is behind", Due.flock("g31#..b10").stone(2), 0);
         due.is("on a WALL", Due.flock("g31#..b10").stone(0), Due.BAD);
         due.is("on WATER", Due.flock("g31~..b10").stone(0), 1);

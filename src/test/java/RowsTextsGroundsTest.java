@@ -129,6 +129,9 @@ public final class RowsTextsGroundsTest {
         due.tells(x, "mean of -1, -2, cut", x.mean(0), 1, -1);
         Due.row(x, 0, Integer.MAX_VALUE, Integer.MAX_VALUE, Integer.MAX_VALUE);
         due.tells(x, "mean of great ones", x.mean(0), 1, Integer.MAX_VALUE);
+        x.row(0, 60);
+        x.lay(0, 59, 120);
+        due.tells(x, "mean of 60", x.mean(0), 1, 2);
     }
 
     private static void promise8() {
@@ -214,6 +217,7 @@ public final class RowsTextsGroundsTest {
         faultOf("g61......b00s10l20c30 ", Due.NONE);
         faultOf("g61......m00t10l20c30b40", 21);
         faultOf("g61......m00t10l20c30 x", 22);
+        faultOf("g25..........b20", 14);
         faultOf("g25..........b14", Due.NONE);
         faultOf("g25..........b15", 15);
         LastStirred x = new LastStirred();
@@ -384,6 +388,8 @@ public final class RowsTextsGroundsTest {
         due.is("SHY, lost", x.mark(0, 1), Due.NONE);
         due.is("TIMID, lost", x.mark(0, 5), Due.NONE);
         due.finds(x, "a lost TIMID is no LAME", x.mark(0, 4), Due.UNLIKE);
+        x = Due.flock("g61......b00t10t20b30");
+        due.is("TIMID: three at 1, 1, 2 off", x.mark(1, 5), 3);
     }
 
     private static void promise16() {

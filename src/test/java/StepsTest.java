@@ -327,6 +327,9 @@ public final class StepsTest {
         due.tells(x, "at(0, 0), as it was", x.at(0, 0), 1, 0);
         x.stir(1, 3);
         due.is("where(1), two lost", x.where(1), 2);
+        x = Due.flock("g41....b30s20l10m00");
+        due.is("four", x.where(0), 0);
+        for (int k = 0; k < 4; k++) due.tells(x, "at(0, " + k + ")", x.at(0, k), 1, 3 - k);
     }
 
     private static void promise22() {

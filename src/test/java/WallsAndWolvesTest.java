@@ -161,6 +161,9 @@ public final class WallsAndWolvesTest {
         dawn(x, 0, Due.NONE, 0, Due.NONE, 0);
         Due.row(x, 0, 2, 3);
         dawn(x, 0, 2, 2, 3, 10);
+        Due.row(x, 0, 0, 2);
+        x.build(1, 1);
+        dawn(x, 0, 1, 1, 2, 8);
         Due.row(x, 0, 1);
         due.finds(x, "dawn(0), one too few", x.dawn(0), Due.SIZE);
         Due.row(x, 0, 1, 2, 77);
