@@ -233,6 +233,16 @@ public final class DrivesTest {
         due.is("they are safe", x.fewest(), 0);
         Due.row(x, 0, 3, 0, 3);
         due.tells(x, "till one can't be", x.drive(0), 1, 0);
+        x = Due.flock("g21..");
+        x.row(0, 0);
+        due.tells(x, "no beasts, no drives", x.drive(0), 0, 0);
+        Due.row(x, 0, 0);
+        due.finds(x, "no beasts, drive 0", x.drive(0), Due.UNLIKE);
+        x = Due.flock("g31...b00");
+        x.row(0, 60);
+        for (int i = 0; i < 60; i++) x.lay(0, i, i % 2 == 0 ? 1 : 3);
+        due.tells(x, "60 drives, to and fro", x.drive(0), 60, 0);
+        due.is("each ran for two steps", x.count(3), 120);
         x = Due.flock("g31..~b00");
         Due.row(x, 1, 1, 1, 1);
         due.tells(x, "two, then it is lost", x.drive(1), 2, 1);

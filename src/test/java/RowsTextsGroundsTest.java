@@ -196,6 +196,8 @@ public final class RowsTextsGroundsTest {
         faultOf("g65.#~o=..............................", 33);
         faultOf("g65.#~o=.........................", Due.NONE);
         faultOf("g65                                                  .#~o=", 58);
+        faultOf("g65" + " ".repeat(77), 80);
+        faultOf("g21.." + " ".repeat(74) + "b", 80);
         faultOf("g21..g", 5);
         faultOf("g21..B", 5);
         faultOf("g21...", 5);

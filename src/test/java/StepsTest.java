@@ -305,6 +305,16 @@ public final class StepsTest {
         x = Due.flock("g65.#==..=....#........##....#=.=l02m53t21l40");
         x.stir(2, 1);
         due.tells(x, "23 steps, then a ring of 24", x.ring(), 47, 24);
+        x = Due.flock("g64......~.=.....#........=b42l21l31");
+        x.stir(1, 0);
+        due.tells(x, "in all else alike, the first is in another cell", x.ring(), 18, 16);
+        // The two grounds on which a lost one would count as one in CELL 23, were NONE cut to five bits.
+        x = Due.flock("g55#....................#~..b22m12m44b04");
+        x.stir(1, 2);
+        due.tells(x, "a lost one is in no cell", x.ring(), 21, 16);
+        x = Due.flock("g65....==........#.=....~.......~t21s51c41m03");
+        x.stir(0, 0);
+        due.tells(x, "a lost one is in no cell", x.ring(), 9, 2);
     }
 
     private static void promise21() {
