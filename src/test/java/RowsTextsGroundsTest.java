@@ -390,6 +390,12 @@ public final class RowsTextsGroundsTest {
         due.is("SHY, lost", x.mark(0, 1), Due.NONE);
         due.is("TIMID, lost", x.mark(0, 5), Due.NONE);
         due.finds(x, "a lost TIMID is no LAME", x.mark(0, 4), Due.UNLIKE);
+        x = Due.flock("g42~~~=....l01c11m21");
+        x.go(1);
+        for (int k = 0; k < 3; k++) due.is("lost", x.stir(k, 0), k);
+        due.is("SLOW, lost", x.mark(0, 2), 1);
+        due.is("CHASER, lost", x.mark(1, 3), 1);
+        due.is("LAME, lost", x.mark(2, 4), 1);
         x = Due.flock("g61......b00t10t20b30");
         due.is("TIMID: three at 1, 1, 2 off", x.mark(1, 5), 3);
     }
