@@ -151,6 +151,8 @@ public final class DrivesSentencesTest {
             due.tells(x, "one alone", x.gather(), 1, 0);
             x = Due.flock("g61......b00b10b20b50");
             due.tells(x, "four", x.gather(), 9, 10);
+            x = Due.flock("g61......t00b50");
+            due.tells(x, "3 by the first, 4 by the last that is tried", x.gather(), 1, 3);
         });
         s.of("Promise 27", "NONE: there is none", due -> {
             LastStirred x = new LastStirred();
@@ -186,6 +188,8 @@ public final class DrivesSentencesTest {
             due.tells(x, "8 by each", x.part(0, 1), 1, 8);
             x = Due.flock("g41...#b00b20");
             due.tells(x, "1", x.part(1, 0), 1, 1);
+            x = Due.flock("g61......b50t00");
+            due.tells(x, "4 by the first, 3 by the last that is tried", x.part(0, 1), 3, 4);
         });
         s.of("Promise 28", "NONE: there is none", due -> {
             LastStirred x = Due.flock("g21..b00b10");
@@ -270,7 +274,8 @@ public final class DrivesSentencesTest {
             x = Due.flock("g55" + ".".repeat(25) + "b22b33b24b31");
             due.is("0 OFF, 2 OFF three times", x.stone(12), 0);
             due.cells(x, "none", 12, 18, 22, 8);
-            due.is("not the one at the other end of a row", Due.flock("g32......b01b20").stone(2), 0);
+            due.is("not the one at the end of the row above", Due.flock("g32......b20").stone(3), 0);
+            due.is("nor at the first of the row below", Due.flock("g33.........b01").stone(2), 0);
         });
         s.of("Promise 30", "one behind the other, one CELL straight away from it", due -> {
             int[] from = {7, 13, 17, 11};
@@ -388,6 +393,7 @@ public final class DrivesSentencesTest {
             Due.row(x, 0, 3);
             due.tells(x, "one", x.drive(0), 1, 1);
             x.row(0, 0);
+            x.cell(0);
             due.tells(x, "one ahead", x.drive(0), 0, 1);
             x = Due.flock("g41~..~b10b20");
             Due.row(x, 0, 3, 7);

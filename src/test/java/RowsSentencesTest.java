@@ -417,7 +417,8 @@ public final class RowsSentencesTest {
             Due.write(x, 0, "g21..b0");
             due.is("of the TEXT as it is now", x.fault(0), 7);
             x.text(1, 80);
-            due.is("of another one", x.fault(0), 7);
+            due.is("of another one", x.fault(1), 80);
+            due.is("of the first one", x.fault(0), 7);
             due.is("a FAULT changes nothing: CELLS", x.count(0), 0);
         });
         s.of("Promise 10", "NONE: there is none", due -> {

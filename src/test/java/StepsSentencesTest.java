@@ -190,7 +190,7 @@ public final class StepsSentencesTest {
             x.go(2);
             ring(due, "they STAND", x, 2, 2);
         });
-        s.of("Promise 20", "(CELLS, ", due -> {
+        s.of("Promise 20", "(CELLS", due -> {
             ring(due, "alike but for BEAST 0", stirred("g23.....=m02m01m00", 2, 1), 27, 24);
             ring(due, "alike but for BEAST 1", stirred("g42....#=..m30b00m11", 0, 2), 18, 16);
             LastStirred x = stirred("g32......m20m10m00", 0, 2);
@@ -198,7 +198,7 @@ public final class StepsSentencesTest {
             ring(due, "alike but for BEAST 2", x, 25, 24);
             ring(due, "alike but for BEAST 3", stirred("g42........l01b11s21m20", 2, 1), 21, 16);
         });
-        s.of("Promise 20", ", LAST, ", due -> {
+        s.of("Promise 20", ", LAST,", due -> {
             ring(due, "alike but for the LAST", stirred("g33....#....b22b10t12", 0, 0), 6, 2);
         });
         s.of("Promise 20", "LAST BUT ONE", due -> {

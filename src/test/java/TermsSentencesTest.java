@@ -388,6 +388,8 @@ public final class TermsSentencesTest {
             due.cells(x, "g65", 29, 5, 24, 22);
             due.is("from column 0 of row 1 up: into row 0", Due.flock("g32......b01").stir(0, 0), 0);
             due.is("from column 2 of row 0 down: into row 1", Due.flock("g32......b20").stir(0, 2), 5);
+            due.is("from column 1 of row 0 down: into row 1", Due.flock("g32......b10").stir(0, 2), 4);
+            due.is("from column 1 of row 1 right: into column 2", Due.flock("g32......b11").stir(0, 1), 5);
             due.is("count(0)", x.count(0), 30);
         });
         s.of(TERMS, "Then as many signs as there are CELLS, by their numbers (blanks may be between)", due -> {
@@ -609,6 +611,10 @@ public final class TermsSentencesTest {
             due.is("off the right end, another row", x.stir(2, 1), Due.STATE);
             due.is("off the lower end", x.stir(3, 2), Due.STATE);
             due.is("off the upper end", x.stir(0, 0), Due.STATE);
+            due.is("right, just on it", Due.flock("g33.........b12").stir(0, 1), 8);
+            due.is("left, just on it", Due.flock("g33.........b10").stir(0, 3), 0);
+            due.is("down, just on it", Due.flock("g33.........b21").stir(0, 2), 8);
+            due.is("up, just on it", Due.flock("g33.........b01").stir(0, 0), 0);
             due.is("off the last corner", Due.flock("g33.........b22").stir(0, 1), Due.STATE);
             due.is("off the first corner", Due.flock("g33.........b00").stir(0, 3), Due.STATE);
             due.is("SHY at the left end stays", leftward("g32......s01b21", 0), 0);
@@ -903,6 +909,8 @@ public final class TermsSentencesTest {
             due.tells(x, "one was still ahead", x.run(), 2, 1);
             due.tells(x, "two were still ahead", x.run(), 2, 1);
             due.is("STEP 5", x.count(3), 5);
+            due.tells(x, "four were still ahead", x.run(), 2, 1);
+            due.is("STEP 7", x.count(3), 7);
         });
         s.of(TERMS, "or 40", due -> {
             // They STAND 160 STEPS from here, and go in each even STEP till then.

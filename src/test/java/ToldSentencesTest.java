@@ -306,7 +306,7 @@ public final class ToldSentencesTest {
         });
         s.of("Promise 44", "what it tells, not the 1 that it answers; asked() stays", due -> {
             LastStirred x = Due.flock("g21.=t10");
-            x.cell(1);
+            x.cell(0);
             int before = x.asked();
             due.is("KIND 5, CELL 1, 0 CELLS", x.digest(), sum(all(2, 1, 0, 0, 1, 0, 0, 1), all(0, 4), all(5, 1, 0),
                     NO_LAST, NO_KEPT, NO_ROWS, all(8), bytes("g21.=t10"), times(3, -1)));

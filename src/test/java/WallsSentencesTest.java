@@ -81,6 +81,10 @@ public final class WallsSentencesTest {
             x.stir(1, 3);
             x.stir(1, 3);
             due.tells(x, "two are LOST", x.never(), 0, Due.NONE);
+            x = Due.flock("g61~..#..b20b40b10");
+            due.tells(x, "0 and 1, 1 and 2", x.never(), 2, 1);
+            x.stir(2, 3);
+            due.tells(x, "the last one is LOST", x.never(), 1, 1);
         });
         s.of("Promise 33", "by how many no way (with GATES) leads from one to the other, in all", due -> {
             due.is("a WALL", Due.flock("g31.#.b00b20").never(), 1);
@@ -166,6 +170,8 @@ public final class WallsSentencesTest {
             wolf(due, "g22....b00", 2, 1, 1, 1);
             wolf(due, "g22....b11", 2, 1, 1, 0);
             wolf(due, "g41....b10b20", 0, 1, 1, 5);
+            wolf(due, "g41....b10", 3, 1, 1, Due.NONE);
+            wolf(due, "g33.........b11", 5, 1, 1, 0);
             LastStirred x = Due.flock("g21..b00");
             x.cell(0);
             due.tells(x, "0", x.wolf(1, 1), 0, Due.NONE);
@@ -236,11 +242,11 @@ public final class WallsSentencesTest {
         s.of("Promise 35", "NONE: none.", due -> {
             LastStirred x = Due.flock("g41....b00b30");
             Due.row(x, 0, 1, 1);
-            x.cell(0);
-            due.tells(x, "two in one CELL", x.dawn(0), Due.NONE, 0);
+            x.cell(3);
+            due.tells(x, "two in one CELL", x.dawn(0), Due.NONE, 1);
             Due.row(x, 0, 0, Due.NONE);
-            x.cell(0);
-            due.tells(x, "LOST, but there is no WATER", x.dawn(0), Due.NONE, 0);
+            x.cell(3);
+            due.tells(x, "LOST, but there is no WATER", x.dawn(0), Due.NONE, 1);
         });
     }
 
@@ -293,6 +299,8 @@ public final class WallsSentencesTest {
             due.tells(x, "of 1: down", x.who(0), 1, 1 << 2);
             Due.row(x, 0, 3);
             due.tells(x, "of 2: right or down first", x.who(0), 1, 1 << 1 | 1 << 2);
+            x.build(2, 1);
+            due.tells(x, "of 2: right first, then down", x.who(0), 1, 1 << 1);
             x = Due.flock("g41....b00b30");
             Due.row(x, 0, 1, 2);
             due.tells(x, "either BEAST", x.who(0), 3, 1 << 1 | 1 << 3);
