@@ -182,6 +182,8 @@ public final class DrivesSentencesTest {
             due.tells(x, "1 by each: the first", x.part(0, 1), 1, 1);
             x = Due.flock("g61......t00b50");
             due.tells(x, "3 by the first, 4 by the second", x.part(1, 0), 7, 4);
+            x = Due.flock("g23.#.#.#b01b02");
+            due.tells(x, "BEAST 0, up", x.part(0, 1), 0, 1);
         });
         s.of("Promise 28", "how far by asked()", due -> {
             LastStirred x = Due.flock("g65" + ".".repeat(30) + "t00t54");
@@ -274,6 +276,7 @@ public final class DrivesSentencesTest {
             x = Due.flock("g55" + ".".repeat(25) + "b22b33b24b31");
             due.is("0 OFF, 2 OFF three times", x.stone(12), 0);
             due.cells(x, "none", 12, 18, 22, 8);
+            due.is("the second, not the first", Due.flock("g51.....b00b30").stone(2), 1);
             due.is("not the one at the end of the row above", Due.flock("g32......b20").stone(3), 0);
             due.is("nor at the first of the row below", Due.flock("g33.........b01").stone(2), 0);
         });
@@ -292,6 +295,7 @@ public final class DrivesSentencesTest {
             due.is("another one", Due.flock("g31...b10b00").stone(2), 0);
             due.is("LAME, a GATE", Due.flock("g31=..m10").stone(2), 0);
             due.is("two GATES", Due.flock("g51=...=b10b30").stone(2), 2);
+            due.is("the first CAN't, the second CAN", Due.flock("g51#....b10b30").stone(2), 1);
             LastStirred x = Due.flockAt("g31...l10", 1);
             due.is("SLOW, odd STEP", x.stone(0), 1);
             x = Due.flock("g31~..b10");

@@ -420,6 +420,12 @@ public final class RowsSentencesTest {
             due.is("of another one", x.fault(1), 80);
             due.is("of the first one", x.fault(0), 7);
             due.is("a FAULT changes nothing: CELLS", x.count(0), 0);
+            x = gone();
+            Due.write(x, 1, "g21#.b10b00");
+            long before = x.digest();
+            due.is("beside a GROUND", x.fault(1), 10);
+            due.is("the GROUND stays", x.digest(), before);
+            due.is("its FLOCK kept in 0", x.on(0), 0);
         });
         s.of("Promise 10", "NONE: there is none", due -> {
             LastStirred x = Due.write(new LastStirred(), 3, "g21..");

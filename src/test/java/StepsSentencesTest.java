@@ -306,6 +306,9 @@ public final class StepsSentencesTest {
             due.is("one LOST", x.apart(), 1);
             x.stir(1, 3);
             due.is("two LOST", x.apart(), 0);
+            x = Due.flock("g41...~b00b10b20");
+            x.stir(2, 1);
+            due.is("the greatest one LOST", x.apart(), 1);
             due.is("four: 1, 2, 3, 1, 2, 1", Due.flock("g41....b00b10b20b30").apart(), 10);
         });
     }

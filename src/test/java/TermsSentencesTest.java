@@ -477,6 +477,8 @@ public final class TermsSentencesTest {
             fault(due, "g21..b0x", 7);
             fault(due, "g21..b20", 6);
             fault(due, "g21..b01", 7);
+            fault(due, "g25..........b40", 14);
+            fault(due, "g52..........b03", 15);
             fault(due, "g65" + ".".repeat(30) + "b60", 34);
             fault(due, "g65" + ".".repeat(30) + "b55", 35);
             fault(due, "g65" + ".".repeat(30) + "b54", Due.NONE);

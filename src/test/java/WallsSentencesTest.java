@@ -94,6 +94,12 @@ public final class WallsSentencesTest {
             due.is("another BEAST between", Due.flock("g31...b00b20b10").never(), 0);
             due.is("all six pairs", Due.flock("g43.#.#####.#.#b00b20b02b22").never(), 6);
             due.is("a corner", Due.flock("g22.##.b00b11").never(), 1);
+            LastStirred x = Due.flock("g41....b10b00b30");
+            x.keep(0);
+            x.stir(0, 1);
+            x.build(1, 1);
+            x.on(0);
+            due.tells(x, "from within a WALL", x.never(), 3, 1);
         });
         s.of("Promise 33", "the first such pair by asked() (10 times the lesser and the greater; NONE)", due -> {
             LastStirred x = Due.flock("g51.....b00b10b20b40");
@@ -209,6 +215,9 @@ public final class WallsSentencesTest {
             due.tells(x, "both LOST", x.dawn(0), 2, 2);
             Due.row(x, 0, 2, 0);
             due.is("the other way round", x.dawn(0), Due.NONE);
+            due.is("fewest() between", x.fewest(), Due.NONE);
+            Due.row(x, 0, Due.NONE, 2);
+            due.tells(x, "one LOST, again", x.dawn(0), 1, 1);
             x = new LastStirred();
             x.row(0, 0);
             due.tells(x, "no GROUND, a ROW of none", x.dawn(0), 0, 1);
@@ -304,6 +313,9 @@ public final class WallsSentencesTest {
             x = Due.flock("g41....b00b30");
             Due.row(x, 0, 1, 2);
             due.tells(x, "either BEAST", x.who(0), 3, 1 << 1 | 1 << 3);
+            x.build(1, 1);
+            Due.row(x, 0, 0, 2);
+            due.tells(x, "one BEAST, behind either one", x.who(0), 2, 1 << 3);
             x = Due.flock("g51oooo.b00b10b20b40");
             Due.row(x, 0, 0, 1, 2, 3);
             due.tells(x, "BEAST 3", x.who(0), 1 << 3, 1 << 3);
