@@ -58,14 +58,15 @@ final class Sentences {
         return due.wrong();
     }
 
-    /** Runs the tests of all sentences, each of which must stand in the document as it is told here. */
+    /** Runs the tests of all sentences, each of which must stand in the document (if that is there) as it is told here. */
     void run(String test) throws IOException {
-        String document = Files.readString(DOCUMENT);
+        boolean isThere = Files.exists(DOCUMENT);
+        String document = isThere ? Files.readString(DOCUMENT) : "";
         Set<String> names = new HashSet<>();
         int wrong = 0;
         for (One one : all) {
             if (!names.add(one.name())) wrong += told(one, "stands here twice");
-            if (!part(document, one.part).contains(one.words)) wrong += told(one, "does not stand in the document");
+            if (isThere && !part(document, one.part).contains(one.words)) wrong += told(one, "does not stand in the document");
             wrong += wrongOf(one);
         }
         System.out.println(test + ": " + all.size() + " sentences, " + wrong + " answers not as due");
