@@ -1,5 +1,6 @@
 import java.io.IOException;
 import java.util.Arrays;
+import java.util.function.IntSupplier;
 
 /** The sentences of promises 38 to 44 that name a boundary case. */
 public final class ToldSentencesTest {
@@ -22,6 +23,14 @@ public final class ToldSentencesTest {
     private static void stays(Due due, LastStirred x, String call, int answer, int want) {
         due.is(call, answer, want);
         due.is(call + ", asked() stays", x.asked(), 77);
+    }
+
+    /** Told behind a call, when 77 had been told ahead of it. */
+    private static void tells(Due due, LastStirred x, String call, IntSupplier answer, int want) {
+        x.at(0, 0);
+        due.is("asked() ahead of " + call, x.asked(), 77);
+        answer.getAsInt();
+        due.is("asked() behind " + call, x.asked(), want);
     }
 
     private static void promise38(Sentences s) {
@@ -98,6 +107,32 @@ public final class ToldSentencesTest {
             stays(due, x, "ground", x.ground(0), 2);
             x.asked();
             due.is("asked() twice", x.asked(), 77);
+        });
+        s.of("Promise 38", "gather(), part(), worth(), drive(), never(), wolf(), dawn(), who()", due -> {
+            LastStirred x = Due.flock("g61...ooob00b10");
+            Due.row(x, 0, 77);
+            Due.row(x, 1, 5, 9);
+            Due.row(x, 2, 3, 4);
+            Due.row(x, 4, 5, 5, 5);
+            tells(due, x, "lay", () -> x.lay(1, 0, 6), 5);
+            tells(due, x, "at", () -> x.at(1, 0), 6);
+            tells(due, x, "mean", () -> x.mean(1), 7);
+            tells(due, x, "cell", () -> x.cell(1), 1);
+            tells(due, x, "beast", () -> x.beast(0, 0), 0);
+            tells(due, x, "last, NONE", x::last, Due.NONE);
+            tells(due, x, "run", x::run, 1);
+            tells(due, x, "ring", x::ring, 2);
+            tells(due, x, "fewest", x::fewest, 0x555);
+            tells(due, x, "gather", x::gather, 1);
+            tells(due, x, "part", () -> x.part(0, 1), 1);
+            tells(due, x, "worth", () -> x.worth(1, 1), 1);
+            tells(due, x, "never, none", x::never, Due.NONE);
+            tells(due, x, "wolf", () -> x.wolf(5, 1), Due.NONE);
+            tells(due, x, "drive", () -> x.drive(4), 0);
+            tells(due, x, "dawn", () -> x.dawn(2), 1);
+            x.stir(0, 3);
+            tells(due, x, "who", () -> x.who(2), 1 << 1);
+            tells(due, x, "last", x::last, 2);
         });
         s.of("Promise 38", "0 before", due -> {
             LastStirred x = new LastStirred();
